@@ -1,0 +1,102 @@
+import java.util.concurrent.Callable;
+
+/** Counts the answers that are not the ones that are due, and tells them. */
+final class Check {
+    private static int wrong = 0;
+
+    private Check() {
+    }
+
+    static void same(String call, Object got, Object due) {
+        if (!due.equals(got)) {
+            wrong++;
+            System.out.println(call + " answered " + got + ", due is " + due);
+        }
+    }
+
+    /** The call throws exactly this class of exception, and not one below it that the machine throws. */
+    static void refused(String call, Class<?> due, Callable<?> action) {
+        String got;
+        try {
+            got = "" + action.call();
+        } catch (Exception e) {
+            got = e.getClass().getName();
+        }
+        same(call, got, due.getName());
+    }
+
+    static void isTrue(String what, boolean holds) {
+        same(what, holds, true);
+    }
+
+    static void end() {
+        if (wrong > 0) {
+            System.out.println(wrong + " answers are not as due");
+            System.exit(1);
+        }
+    }
+
+    /** Puts a text into the buffer, which is empty before. */
+    static void load(SubstituteDesk desk, String text) {
+        StringBuilder padded = new StringBuilder(text);
+        while (padded.length() % 20 != 0) {
+            padded.append('#');
+        }
+        for (int i = 0; i < padded.length(); i += 20) {
+            desk.appendText(four(padded, i), four(padded, i + 4), four(padded, i + 8), four(padded, i + 12),
+                    four(padded, i + 16));
+        }
+        desk.truncateText(text.length());
+    }
+
+    static int four(CharSequence text, int at) {
+        return text.charAt(at) << 24 | text.charAt(at + 1) << 16 | text.charAt(at + 2) << 8 | text.charAt(at + 3);
+    }
+
+    static int parse(SubstituteDesk desk, String text) {
+        load(desk, text);
+        return desk.parseSchool();
+    }
+
+    static int script(SubstituteDesk desk, String text) {
+        load(desk, text);
+        return desk.runScript();
+    }
+
+    /** A desk with the school of the text, which is correct. */
+    static SubstituteDesk school(String text) {
+        SubstituteDesk desk = new SubstituteDesk();
+        int lessons = parse(desk, text);
+        isTrue("the school is correct: " + text + " (" + desk.errorCode() + " at " + desk.errorPosition() + ")",
+                lessons >= 0);
+        return desk;
+    }
+
+    static String report(SubstituteDesk desk, int group) {
+        int length = desk.writeReport(group);
+        StringBuilder text = new StringBuilder();
+        for (int i = 0; i < length; i++) {
+            text.append((char) desk.reportByte(i));
+        }
+        return text.toString();
+    }
+
+    /** All that can be asked about the state, to see that it stays or comes back. */
+    static String state(SubstituteDesk desk) {
+        StringBuilder text = new StringBuilder();
+        for (int i = 0; i < desk.count(6); i++) {
+            for (int what = 0; what <= 9; what++) {
+                text.append(desk.lesson(i, what)).append(' ');
+            }
+        }
+        for (int k = 0; k < desk.count(3); k++) {
+            for (int what = 0; what <= 6; what++) {
+                text.append(desk.teacher(k, what)).append(' ');
+            }
+        }
+        for (int what = 0; what <= 9; what++) {
+            text.append(desk.count(what)).append(' ');
+        }
+        return text.toString();
+    }
+}
