@@ -1427,7 +1427,7 @@ public final class SubstituteDesk {
         }
 
         private boolean readSubjects() {
-            for (int i = 0; i == 0 || words.isWord("subject") && i <= MAX_SUBJECTS; i++) {
+            for (int i = 0; i <= MAX_SUBJECTS && (i == 0 || words.isWord("subject")); i++) {
                 if (i == MAX_SUBJECTS) {
                     return fail(5);
                 }
@@ -1443,7 +1443,7 @@ public final class SubstituteDesk {
         }
 
         private boolean readTeachers() {
-            for (int i = 0; i == 0 || words.isWord("teacher") && i <= MAX_TEACHERS; i++) {
+            for (int i = 0; i <= MAX_TEACHERS && (i == 0 || words.isWord("teacher")); i++) {
                 if (i == MAX_TEACHERS) {
                     return fail(5);
                 }
@@ -1460,7 +1460,7 @@ public final class SubstituteDesk {
             }
             int most = takeNumber();
             int mask = 0;
-            for (int k = 0; k == 0 || words.kind == Words.NUMBER && k <= MAX_SUBJECTS; k++) {
+            for (int k = 0; k <= MAX_SUBJECTS && (k == 0 || words.kind == Words.NUMBER); k++) {
                 if (!checkNumber(0, draft.subjects - 1)) {
                     return false;
                 }
@@ -1474,7 +1474,7 @@ public final class SubstituteDesk {
         }
 
         private boolean readRooms() {
-            for (int i = 0; i == 0 || words.isWord("room") && i <= MAX_ROOMS; i++) {
+            for (int i = 0; i <= MAX_ROOMS && (i == 0 || words.isWord("room")); i++) {
                 if (i == MAX_ROOMS) {
                     return fail(5);
                 }

@@ -21,6 +21,7 @@ public final class ReasonsTest {
         chainOfFour();
         chainTooLong();
         chainTies();
+        chainAmongMany();
         chainAvoids();
         partners();
         slots();
@@ -278,6 +279,24 @@ public final class ReasonsTest {
         chainIs("the least load of the last", loads, 0, 2, 4);
         loads.reopen(4);
         chainIs("equal loads", loads, 0, 1, 3);
+    }
+
+    private static void chainAmongMany() {
+        // of the free ones 1, 3 and 4 have the least load, and teacher 0 is busy but could go on to them
+        SubstituteDesk desk = chained("teacher 9 0 1;teacher 9 1;teacher 9 2;teacher 9 1;teacher 9 1;", 1);
+        desk.setAbsent(0, 0, true);
+        chainIs("only the absent one could", desk, 0);
+        SubstituteDesk back = chained("teacher 9 0 1;teacher 9 1;teacher 9 0;teacher 9 0;teacher 9 2;", 2);
+        back.reopen(1);
+        back.setAbsent(1, 0, true);
+        chainIs("by teacher 0, whom a later one replaces", back, 1, 0, 2);
+        back.setAbsent(2, 0, true);
+        chainIs("by the next one", back, 1, 0, 3);
+        back.setAbsent(3, 0, true);
+        chainIs("nobody is left", back, 1);
+        SubstituteDesk none = chained("teacher 9 0;teacher 9 1;teacher 9 1 2;", 2);
+        none.setAbsent(1, 0, true);
+        chainIs("a free one", none, 1, 2);
     }
 
     private static void chainAvoids() {

@@ -100,8 +100,10 @@ public final class ReportUndoTest {
         desk.reset();
         desk.undo();
         Check.same("before the reset", desk.lesson(0, 3), SubstituteDesk.NONE);
+        desk.move(0, 2);
         desk.repair(0);
         desk.undo();
+        Check.same("after the move", desk.lesson(0, 0), 2);
         Check.same("before the repair", desk.lesson(0, 3), SubstituteDesk.NONE);
     }
 

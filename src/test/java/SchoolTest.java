@@ -37,6 +37,7 @@ public final class SchoolTest {
         Check.same("most of both", desk.teacher(0, 0) * 10 + desk.teacher(1, 0), 22);
         Check.same("subjects of both", desk.teacher(0, 1) * 10 + desk.teacher(1, 1), 11);
         Check.same("nobody is absent", desk.teacher(0, 2) + desk.teacher(1, 2), 0);
+        Check.same("kinds", desk.subject(0, 0) * 10 + desk.room(0, 0), 0);
         Check.same("nothing to undo", desk.undoDepth(), 0);
         Check.same("the buffer is empty", desk.truncateText(0), 0);
         Check.refused("the buffer is empty", IllegalArgumentException.class, () -> desk.truncateText(1));
@@ -190,6 +191,7 @@ public final class SchoolTest {
         Check.same("freeRooms(0, 3)", desk.freeRooms(0, 3), 4);
         Check.same("freeRooms(0, 1)", desk.freeRooms(0, 1), 0);
         Check.same("freeRooms(1, 3)", desk.freeRooms(1, 3), 6);
+        Check.same("freeRooms(1, 0)", desk.freeRooms(1, 0), 9);
         Check.refused("freeRooms(8, 4)", IndexOutOfBoundsException.class, () -> desk.freeRooms(8, 4));
         Check.refused("freeRooms(-1, 0)", IndexOutOfBoundsException.class, () -> desk.freeRooms(-1, 0));
         Check.refused("freeRooms(0, 4)", IllegalArgumentException.class, () -> desk.freeRooms(0, 4));
@@ -213,6 +215,10 @@ public final class SchoolTest {
             Check.refused("difference", java.util.NoSuchElementException.class, () -> desk.difference(bad));
         }
         Check.refused("openLesson(2)", java.util.NoSuchElementException.class, () -> desk.openLesson(2));
+        desk.reopen(0);
+        Check.same("lesson 0 is the first then", desk.openLesson(0) + desk.difference(0), 0);
+        Check.same("lesson 1 is the second then", desk.openLesson(1) * 10 + desk.difference(1), 11);
+        Check.refused("openLesson(-1)", java.util.NoSuchElementException.class, () -> desk.openLesson(-1));
     }
 
     private static void windows() {
@@ -278,6 +284,9 @@ public final class SchoolTest {
             desk.reopen(i);
         }
         Check.same("none", desk.taughtShare(), 0.0);
+        SubstituteDesk small = new SubstituteDesk();
+        small.reopen(0);
+        Check.same("none of one", small.taughtShare(), 0.0);
     }
 
     private static void withoutLessons() {

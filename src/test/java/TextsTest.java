@@ -150,7 +150,22 @@ public final class TextsTest {
         marked("grid 1 2; subject 0; teacher 1 0; room 0; classes 1; lesson 0 0 0 0 ^room;", 1);
         marked("grid 1 2; subject 0; teacher 1 0; room 0; classes 1 ^\t;", 1);
         marked("grid ^-1 2;", 1);
+        marked("^xrid 1 2;", 1);
+        marked("^gridz 1 2;", 1);
+        marked("^agrid 1 2;", 1);
+        missingSemicolons();
         marked("grid 1 2; subject 0; teacher 1 0; room 0; classes 1; ^lessons 0 0 0 0 0;", 1);
+    }
+
+    private static void missingSemicolons() {
+        marked("grid 1 2 ^subject 0;", 1);
+        marked("grid 1 2; subject 0 ^subject 0; teacher 1 0; room 0; classes 1;", 1);
+        marked("grid 1 2; subject 0 ^teacher 1 0;", 1);
+        marked("grid 1 2; subject 0; teacher 1 0 ^teacher 1 0; room 0; classes 1;", 1);
+        marked("grid 1 2; subject 0; teacher 1 0; room 0 ^room 0; classes 1;", 1);
+        marked("grid 1 2; subject 0; teacher 1 0; room 0; classes 1 ^lesson 0 0 0 0 0;", 1);
+        marked(HEAD + "lesson 0 0 0 0 0 ^lesson 1 0 0 0 0;", 1);
+        marked(HEAD + "lesson 0 0 0 0 0^", 1);
     }
 
     private static void numbers() {
