@@ -25,6 +25,42 @@ final class Check {
         same(call, got, due.getName());
     }
 
+    /** A call that is asked with one number. */
+    interface Asking {
+        Object of(int number);
+    }
+
+    /** Things are numbered from 0: there is the first and the last one, and none on either side. */
+    static void numbered(String call, int many, Asking asking) {
+        for (int bad : new int[] {-1, many, Integer.MIN_VALUE, Integer.MAX_VALUE}) {
+            refused(call + " " + bad, IndexOutOfBoundsException.class, () -> asking.of(bad));
+        }
+        for (int good : new int[] {0, many - 1}) {
+            same(call + " " + good + " is there", isThere(good, asking), true);
+        }
+    }
+
+    private static boolean isThere(int number, Asking asking) {
+        try {
+            asking.of(number);
+        } catch (IndexOutOfBoundsException e) {
+            return false;
+        } catch (IllegalStateException | java.util.NoSuchElementException e) {
+            return true;
+        }
+        return true;
+    }
+
+    /** The property is asked by a number from 0: an argument beside the least or the greatest one is refused. */
+    static void properties(String call, int many, Asking asking) {
+        for (int bad : new int[] {-1, many, Integer.MIN_VALUE, Integer.MAX_VALUE}) {
+            refused(call + " " + bad, IllegalArgumentException.class, () -> asking.of(bad));
+        }
+        for (int good = 0; good < many; good++) {
+            asking.of(good);
+        }
+    }
+
     static void isTrue(String what, boolean holds) {
         same(what, holds, true);
     }
