@@ -1,7 +1,16 @@
+import java.lang.reflect.InvocationTargetException;
+import java.lang.reflect.Method;
+import java.lang.reflect.Modifier;
+import java.util.List;
+import java.util.Set;
 import java.util.concurrent.Callable;
 
 /** Counts the answers that are not the ones that are due, and tells them. */
 final class Check {
+    private static final Set<String> CHANGING = Set.of("setAbsent", "cover", "supervise", "repair", "repairAll",
+            "exchange", "move", "setRoom", "reopen", "reset", "runScript", "undo", "parseSchool", "appendText",
+            "truncateText", "writeReport", "reportByte");
+
     private static int wrong = 0;
 
     private Check() {
@@ -115,6 +124,41 @@ final class Check {
             text.append((char) desk.reportByte(i));
         }
         return text.toString();
+    }
+
+    /** What each call that changes nothing answers, with numbers in and beside all ranges. */
+    static String everything(SubstituteDesk desk) {
+        StringBuilder text = new StringBuilder();
+        int greatest = Math.max(desk.count(0) * desk.count(1), Math.max(desk.count(6), 10)) + 1;
+        for (Method method : SubstituteDesk.class.getDeclaredMethods()) {
+            if (!Modifier.isPublic(method.getModifiers()) || CHANGING.contains(method.getName())) {
+                continue;
+            }
+            int parameters = method.getParameterCount();
+            for (int a = -1; a <= (parameters > 0 ? greatest : -1); a++) {
+                for (int b = -1; b <= (parameters > 1 ? greatest : -1); b++) {
+                    Object[] numbers = parameters == 0 ? new Object[0]
+                            : parameters == 1 ? new Object[] {a} : new Object[] {a, b};
+                    text.append(method.getName()).append(List.of(numbers)).append(answer(desk, method, numbers));
+                }
+            }
+        }
+        for (int group = 0; group < desk.count(5); group++) {
+            text.append(report(desk, group));
+        }
+        return text.toString();
+    }
+
+    private static String answer(SubstituteDesk desk, Method method, Object[] numbers) {
+        try {
+            return "" + method.invoke(desk, numbers);
+        } catch (InvocationTargetException e) {
+            isTrue(method + " throws what its throws clause names, not " + e.getCause(),
+                    Set.of(method.getExceptionTypes()).contains(e.getCause().getClass()));
+            return e.getCause().getClass().getName();
+        } catch (IllegalAccessException e) {
+            throw new IllegalStateException(e);
+        }
     }
 
     /** All that can be asked about the state, to see that it stays or comes back. */

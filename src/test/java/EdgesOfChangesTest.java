@@ -247,6 +247,15 @@ public final class EdgesOfChangesTest {
         Check.same("none after the absence", desk.supervise(1, 1), 1);
         desk.undo();
         Check.same("none after undo", desk.teacher(1, 5), 0);
+        String head = "grid 1 6;subject 0;teacher 0 0;teacher 9 0;room 0;classes 1;lesson 0 0 0 0 0;lesson 1 0 0 0 0;";
+        Check.parse(desk, head + "lesson 2 0 0 0 0;");
+        desk.reopen(2);
+        desk.supervise(2, 1);
+        Check.parse(desk, head);
+        desk.reopen(0);
+        desk.reopen(1);
+        Check.same("the first of a new school", desk.supervise(0, 1), 1);
+        Check.same("the second of a new school", desk.supervise(1, 1), 2);
     }
 
     private static void thirdDutyByMoveAndExchange() {

@@ -30,6 +30,8 @@ public final class EdgesOfReasonsTest {
         fewestBeforeLeastLoad();
         leastLoadBeforeOrder();
         lexicographicAtEachPlace();
+        chainWithTheFirstTeacher();
+        chainAfterAnother();
         partners();
         slotsAtBothEnds();
         Check.end();
@@ -525,6 +527,48 @@ public final class EdgesOfReasonsTest {
                 slot("teacher 9 0;teacher 9 1 0;teacher 9 2 0;teacher 9 2;teacher 9 3;", 3), 0, 2, 3);
         chainIs("the lowest leads to what is too long",
                 slot("teacher 9 0;teacher 9 1 0;teacher 9 2 1 0;teacher 9 3;teacher 9 2;", 4), 0, 2, 4);
+    }
+
+    /** Teacher 0 is in a chain only where the document has teacher 0 there. */
+    private static void chainWithTheFirstTeacher() {
+        String free = "teacher 9 3;";
+        SubstituteDesk desk = withoutTheFirst(free + "teacher 0 1;teacher 9 0;", 0);
+        chainIs("free, but not qualified, beside one with a load of MOST", desk, 0);
+        desk = withoutTheFirst(free + "teacher 9 1;teacher 9 0;", 0);
+        chainIs("free, but not qualified, beside a free one", desk, 0, 1);
+        desk = withoutTheFirst(free + "teacher 9 1 2;teacher 9 0;", 2);
+        chainIs("free, but not qualified for what is left", desk, 0);
+        desk = withoutTheFirst("teacher 9 2;teacher 9 1 2;teacher 9 0;", 2);
+        chainIs("free, and qualified for what is left", desk, 0, 1, 0);
+        SubstituteDesk two = slot("teacher 9 0 1;teacher 9 1;teacher 9 2 1;teacher 9 2;", 3);
+        two.setAbsent(0, 0, false);
+        two.cover(0, 0);
+        two.setAbsent(1, 0, true);
+        chainIs("busy, with what only the absent one could teach", two, 1, 2, 3);
+        Check.same("repaired", two.repair(1), 2);
+        two.setAbsent(1, 0, false);
+        two.setAbsent(2, 0, true);
+        chainIs("free, and not by the busy one", two, 1, 1);
+    }
+
+    /** Lesson 0, of subject 1, is opened; teacher 1 has lesson 1 of the subject in the same slot, but for 0. */
+    private static SubstituteDesk withoutTheFirst(String teachers, int subject) {
+        String busy = subject > 0 ? "lesson 0 1 " + subject + " 1 1;" : "";
+        SubstituteDesk desk = Check.school("grid 1 2;" + "subject 0;".repeat(4) + teachers + "teacher 9 1;"
+                + "room 0;room 0;classes 2;lesson 0 0 1 3 0;" + busy);
+        desk.setAbsent(3, 0, true);
+        return desk;
+    }
+
+    /** Where a chain was looked for before does not matter. */
+    private static void chainAfterAnother() {
+        SubstituteDesk desk = Check.school("grid 1 3;" + "subject 0;".repeat(3) + "teacher 0 0 1;teacher 9 1;teacher 9 0;"
+                + "room 0;room 0;room 0;classes 3;lesson 0 0 0 2 0;lesson 0 1 1 0 1;lesson 1 0 0 2 0;");
+        desk.setAbsent(2, 0, true);
+        for (int i = 0; i < 3; i++) {
+            chainIs("busy with what another can teach", desk, 0, 0, 1);
+            chainIs("free, with a load of MOST", desk, 2);
+        }
     }
 
     // ---- promises 26 to 28

@@ -11,8 +11,10 @@ public final class EdgesOfTextsTest {
         refusedAppendChangesNothing();
         truncateText();
         truncatedCharactersAreGone();
+        nothingIsReadBehindTheEnd();
         numberOfLessonsIsReturned();
         newSchoolAfterAnother();
+        nothingOfTheOldSchoolIsLeft();
         bufferIsEmptyAfterwards();
         errorsAtFirstAndLater();
         positionsAtBothEnds();
@@ -138,6 +140,39 @@ public final class EdgesOfTextsTest {
         Check.same("and nothing between", desk.runScript(), 2);
     }
 
+    /** What stood behind the new end is not joined to what stands before it. */
+    private static void nothingIsReadBehindTheEnd() {
+        truncated("grid 1 2;", 4, 1, 4);
+        truncated("grids 1 2;", 4, 1, 4);
+        truncated("grid 12", 6, 1, 6);
+        truncated("grid 12;", 6, 1, 6);
+        truncated("grid 1;", 6, 1, 6);
+        truncated("grid 1 2;;", 9, 1, 9);
+        truncated("grid \n ", 5, 1, 5);
+        SubstituteDesk desk = new SubstituteDesk();
+        for (String behind : new String[] {";", "x", "0", " ", "\n", "$"}) {
+            Check.load(desk, FULL + behind);
+            desk.truncateText(FULL.length());
+            Check.same("a school before " + behind, desk.parseSchool(), 2);
+            Check.load(desk, "all;" + behind);
+            desk.truncateText(4);
+            Check.same("a script before " + behind, desk.runScript(), 1);
+            Check.load(desk, "all" + behind);
+            desk.truncateText(3);
+            error(desk, "a script before " + behind, desk.runScript(), 1, 3);
+            Check.load(desk, behind.repeat(20));
+            desk.truncateText(0);
+            Check.same("no steps before " + behind, desk.runScript(), 0);
+        }
+    }
+
+    private static void truncated(String text, int length, int code, int position) {
+        SubstituteDesk desk = new SubstituteDesk();
+        Check.load(desk, text);
+        desk.truncateText(length);
+        error(desk, text + " truncated to " + length, desk.parseSchool(), code, position);
+    }
+
     // ---- promises 4 to 7
 
     private static String lessons(int number) {
@@ -187,6 +222,50 @@ public final class EdgesOfTextsTest {
         Check.same("the last lesson", desk.lesson(39, 3), 1);
         Check.same("wrong after correct", Check.parse(desk, ""), NONE);
         Check.same("the school stays", desk.count(6), 40);
+    }
+
+    /** Whatever school was there before, and in whatever state: all answers are as on a new object. */
+    private static void nothingOfTheOldSchoolIsLeft() {
+        String[] schools = {lessons(40), FULL, "grid 1 2;" + SMALL_TAIL, "grid 1 1;" + SMALL_TAIL + "lesson 0 0 0 0 0;",
+            lessons(12) + "lesson 7 0 0 1 1;", lessons(3)};
+        for (String before : schools) {
+            for (String after : schools) {
+                for (boolean isWithAbsentOnes : new boolean[] {true, false}) {
+                    SubstituteDesk used = Check.school(before);
+                    makeChanges(used, isWithAbsentOnes);
+                    SubstituteDesk fresh = new SubstituteDesk();
+                    Check.parse(used, after);
+                    Check.parse(fresh, after);
+                    Check.isTrue(after + " after " + before + ": all answers are alike",
+                            Check.everything(used).equals(Check.everything(fresh)));
+                    Check.same("opened", used.setAbsent(0, 0, true), fresh.setAbsent(0, 0, true));
+                    Check.same("repaired", used.repairAll(), fresh.repairAll());
+                    Check.same("reset", used.reset(), fresh.reset());
+                    used.setAbsent(0, 0, false);
+                    fresh.setAbsent(0, 0, false);
+                    makeChanges(used, false);
+                    makeChanges(fresh, false);
+                    Check.same(after + " after " + before + ": state", Check.state(used), Check.state(fresh));
+                }
+            }
+        }
+    }
+
+    /** Opens, supervises and moves as many lessons as can be, and looks for the chain of each. */
+    private static void makeChanges(SubstituteDesk desk, boolean isWithAbsentOnes) {
+        for (int i = 0; i < desk.count(6); i++) {
+            Check.script(desk, "open " + i + ";");
+            if (i % 3 == 0) {
+                int slot = desk.lesson(i, 0);
+                Check.script(desk, "watch " + i + " " + (desk.count(3) - 1) + ";");
+                Check.script(desk, "move " + i + " " + (slot == 0 ? 1 : 0) + ";");
+            }
+            desk.chain(i);
+        }
+        for (int day = 0; day < desk.count(0) && isWithAbsentOnes; day++) {
+            desk.setAbsent(desk.count(3) - 1, day, true);
+            desk.setAbsent(0, day, day % 2 == 0);
+        }
     }
 
     private static void bufferIsEmptyAfterwards() {
